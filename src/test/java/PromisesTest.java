@@ -1,11 +1,5 @@
 /** Each promise of ../shared/DOC.md by itself, with answers reckoned by hand. */
-public final class PromisesTest {
-    private static final String ARGUMENT = "throws.IllegalArgumentException";
-    private static final String INDEX = "throws.IndexOutOfBoundsException";
-    private static final String STATE = "throws.IllegalStateException";
-    private static final int MIN = Integer.MIN_VALUE;
-    private static final int MAX = Integer.MAX_VALUE;
-
+public final class PromisesTest extends Books {
     private PromisesTest() {
     }
 
@@ -37,37 +31,6 @@ public final class PromisesTest {
         digest();
         digestOfWidows();
         Check.end();
-    }
-
-    /** Nobody dies ahead of 100, no interest, load or charge: a sum is worth 1000 for each year to come. */
-    private static WidowPennies plainBook() {
-        WidowPennies x = new WidowPennies();
-        for (int age = 50; age <= 99; age++) {
-            x.setDeaths(age, 0);
-        }
-        for (int what = 0; what <= 2; what++) {
-            x.setRate(what, 0);
-        }
-        return x;
-    }
-
-    private static void counts(String what, WidowPennies x, int... want) {
-        for (int i = 0; i < want.length; i++) {
-            Check.same(what + " count(" + i + ")", want[i], x.count(i));
-        }
-    }
-
-    private static void tells(String what, WidowPennies x, int widow, int... want) {
-        for (int i = 0; i < want.length; i++) {
-            Check.same(what + " told(" + widow + ", " + i + ")", want[i], x.told(widow, i));
-        }
-    }
-
-    /** A call that throws changes nothing. */
-    private static void refused(WidowPennies x, String what, String want, Check.Call call) {
-        long before = x.digest();
-        Check.due(what, want, call);
-        Check.same(what + " changed nothing", before, x.digest());
     }
 
     private static void newObject() {
