@@ -3,31 +3,46 @@ import java.util.Random;
 /** Runs of up to 512 calls, right and wrong ones mixed, each answer and state compared with PlainClerk's. */
 public final class RandomRunsTest {
     private static final int RUNS = 300;
-    private static final int CALLS = 256;
+    private static final int MOST_CALLS = 512;
 
     private final Random random;
     private final WidowPennies mine = new WidowPennies();
     private final PlainClerk plain = new PlainClerk();
     private final boolean heavyOnTables;
+    /** Few years go by, and few buy or die, so that some are alive still as the run ends. */
+    private final boolean slow;
 
-    private RandomRunsTest(long seed) {
+    private RandomRunsTest(long seed, boolean slow) {
         random = new Random(seed);
         heavyOnTables = seed % 3 == 0;
+        this.slow = slow;
     }
 
     public static void main(String[] args) {
+        int aliveAtTheEnd = 0;
         for (int run = 0; run < RUNS && Check.wrongSoFar() < 20; run++) {
-            new RandomRunsTest(run).go("run " + run + ": ");
+            new RandomRunsTest(run, false).withDigests("run " + run + ": ");
+            RandomRunsTest slow = new RandomRunsTest(RUNS + run, true);
+            slow.digestAtTheEnd("slow run " + run + ": ");
+            aliveAtTheEnd += slow.plain.count(2) > 0 ? 1 : 0;
         }
+        Check.same("in most slow runs somebody is alive at the end", true, aliveAtTheEnd > RUNS / 2);
         Check.end();
     }
 
-    private void go(String run) {
-        // Half of the 512 calls are the digests that compare the states.
-        for (int i = 0; i < CALLS && Check.wrongSoFar() < 20; i++) {
+    /** Half of the calls are the digests that compare the states. */
+    private void withDigests(String run) {
+        for (int i = 0; i < MOST_CALLS / 2 && Check.wrongSoFar() < 20; i++) {
             step(run + "call " + i + " ");
             Check.same(run + "digest behind call " + i, plain.digest(), mine.digest());
         }
+    }
+
+    private void digestAtTheEnd(String run) {
+        for (int i = 0; i < MOST_CALLS - 1 && Check.wrongSoFar() < 20; i++) {
+            step(run + "call " + i + " ");
+        }
+        Check.same(run + "digest as the last call", plain.digest(), mine.digest());
     }
 
     /** Mostly between the ends, often at one, and now and then outside. */
@@ -50,6 +65,9 @@ public final class RandomRunsTest {
 
     private void step(String at) {
         int kind = random.nextInt(20);
+        while (slow && comesOrGoes(kind) && random.nextInt(6) != 0) {
+            kind = random.nextInt(20);
+        }
         if (kind < 7) {
             change(at, kind);
         } else if (kind < 13) {
@@ -57,6 +75,11 @@ public final class RandomRunsTest {
         } else {
             reckon(at, kind);
         }
+    }
+
+    /** buy, die, giveUp and pass. */
+    private static boolean comesOrGoes(int kind) {
+        return kind >= 2 && kind <= 5 || kind == 13;
     }
 
     private void change(String at, int kind) {
